@@ -433,7 +433,7 @@ public final class DerivativeTape {
                     }
                 } else {
                     states[node] = SMOOTH;
-                    begin(program, node, at, along, order);
+                    begin(program, node, at, along);
                 }
             }
         }
@@ -458,16 +458,14 @@ public final class DerivativeTape {
             return chooses && rows[first][0] == rows[second][0] ? ROUGH : state;
         }
 
-        private void begin(Program program, int node, int[] at, int[] along, int order) {
+        /** The coefficients that inputs and constants have not are 0 from the start, and stay so. */
+        private void begin(Program program, int node, int[] at, int[] along) {
             int[] row = rows[node];
             int detail = program.details[node];
-            Arrays.fill(row, 0);
             if (program.kinds[node] == CONSTANT) {
                 row[0] = detail;
-                return;
-            }
-            row[0] = at[detail];
-            if (order > 0) {
+            } else {
+                row[0] = at[detail];
                 row[1] = along[detail];
             }
         }
@@ -579,7 +577,8 @@ public final class DerivativeTape {
                     give(second, Numbers.times(share, sweep.rows[first][0]));
                     break;
                 case DIV:
-                    int part = Numbers.times(share, Numbers.raise(sweep.rows[second][0], INVERTING));
+                    int inverse = Numbers.raise(sweep.rows[second][0], INVERTING);
+                    int part = Numbers.times(share, inverse);
                     give(first, part);
                     give(second, -Numbers.times(part, sweep.rows[node][0]));
                     break;

@@ -47,6 +47,7 @@ public final class PromisesTest {
         marchRefused();
         arrived();
         adjoint();
+        fullTape();
         refusedCallsChangeNothing();
         Check.finish();
     }
@@ -317,21 +318,30 @@ public final class PromisesTest {
         reverseOfKinds();
     }
 
+    /** At x = 2 and y = 5: the derivatives by x and by y, 1 / 5 being 52417 and 2 / 25 being 34071. */
     private static void reverseOfKinds() {
+        reverseOfKind(ADD, 0, 1, 1, 1);
+        reverseOfKind(SUB, 0, 1, 1, 65520);
+        reverseOfKind(MUL, 0, 1, 5, 2);
+        reverseOfKind(DIV, 0, 1, 52417, 65521 - 34071);
+        reverseOfKind(MIN, 0, 1, 1, 0);
+        reverseOfKind(MIN, 1, 0, 1, 0);
+        reverseOfKind(MAX, 0, 1, 0, 1);
+        reverseOfKind(MAX, 1, 0, 0, 1);
+        reverseOfKind(POWER, 0, 4, 32, 0);
+        reverseOfKind(POWER, 1, 2, 0, 10);
+        reverseOfKind(POWER, 1, 1, 0, 1);
+        reverseOfKind(POWER, 1, 0, 0, 0);
+        reverseOfKind(DIV, 1, 1, 0, 0);
+    }
+
+    private static void reverseOfKind(int kind, int a, int b, int byX, int byY) {
         DerivativeTape x = withInputs(2, 5);
-        x.operation(DIV, 0, 1);
-        x.operation(POWER, 0, 4);
-        x.operation(POWER, 1, 0);
-        x.operation(MIN, 0, 1);
-        x.operation(MAX, 0, 1);
-        int[][] due = {{52417, 31450}, {32, 0}, {0, 0}, {1, 0}, {0, 1}};
-        for (int i = 0; i < 5; i++) {
-            x.output(i + 2);
-            x.weight(i, 1);
-            due("kind of node " + (i + 2), x.reverse(0), due[i][0]);
-            due("kind of node " + (i + 2), x.reverse(1), due[i][1]);
-            x.weight(i, 0);
-        }
+        x.operation(kind, a, b);
+        x.output(2);
+        x.weight(0, 1);
+        due("by x, kind " + kind, x.reverse(0), byX);
+        due("by y, kind " + kind, x.reverse(1), byY);
     }
 
     private static void reverseStates() {
@@ -490,7 +500,9 @@ public final class PromisesTest {
         x.constant(1);
         x.output(0);
         due("no input", x.colours(), 0);
-        for (int j = 0; j < 5; j++) x.input();
+        x.input();
+        due("one input", x.colours(), 1);
+        for (int j = 1; j < 5; j++) x.input();
         due("no conflict", x.colours(), 1);
         x.operation(ADD, 1, 2);
         x.output(6);
@@ -658,6 +670,12 @@ public final class PromisesTest {
         y.output(6);
         y.output(7);
         due("POWER 0 of a constant", y.size(), 5);
+        DerivativeTape first = new DerivativeTape();
+        first.constant(5);
+        first.constant(-65516);
+        first.output(0);
+        first.output(1);
+        due("the first node is alike too", first.size(), 1);
         DerivativeTape z = withInputs(4);
         z.operation(POWER, 0, 0);
         z.constant(1);
@@ -706,6 +724,37 @@ public final class PromisesTest {
         due("march(2, 1)", x.march(2, 1), 1);
         due("x * y * (x + y)", x.arrived(0), 30);
         due("x * y + x + y", x.arrived(1), 11);
+    }
+
+    /** All limits at once: 24 nodes, 5 inputs, 5 outputs, 20 steps; x0 goes round through all inputs. */
+    private static void fullTape() {
+        promise = "limits";
+        DerivativeTape x = withInputs(3, 5, 7, 11, 13);
+        for (int node = 5; node < 24; node++) x.operation(POWER, node - 5, 1);
+        int[] outputs = {21, 22, 23, 19, 20};
+        for (int node : outputs) x.output(node);
+        for (int i = 0; i < 5; i++) x.weight(i, i + 1);
+        x.direction(0, 1);
+        due("march(20, 5)", x.march(20, 5), 33);
+        int[] arrived = {3, 5, 7, 11, 13};
+        for (int j = 0; j < 5; j++) {
+            due("arrived(" + j + ")", x.arrived(j), arrived[j]);
+            due("adjoint(" + j + ")", x.adjoint(j), j + 1);
+        }
+        due("march(1, 1)", x.march(1, 1), 0);
+        due("arrived(0)", x.arrived(0), 5);
+        due("arrived(4)", x.arrived(4), 3);
+        due("adjoint(0)", x.adjoint(0), 5);
+        due("adjoint(4)", x.adjoint(4), 4);
+        due("reverse(0)", x.reverse(0), 5);
+        due("taylor(4, 1)", x.taylor(4, 1), 1);
+        due("taylor(4, 8)", x.taylor(4, 8), 0);
+        due("second(4, 0, 4)", x.second(4, 0, 4), 0);
+        due("entry(3, 4)", x.entry(3, 4), 1);
+        due("size()", x.size(), 24);
+        due("value(23)", x.value(23), 11);
+        due("value(24)", x.value(24), REFUSED);
+        due("colours()", x.colours(), 1);
     }
 
     private static final int[][] LEAST = new int[21][6];
