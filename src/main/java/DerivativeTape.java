@@ -643,16 +643,15 @@ public final class DerivativeTape {
             return node;
         }
 
+        /** For two different nodes, the models of whose operands are known. */
         private boolean areAlike(Program program, Sweep sweep, int one, int other) {
             if (folded[one] || folded[other]) {
                 return folded[one] && folded[other] && sweep.rows[one][0] == sweep.rows[other][0];
             }
             int kind = program.kinds[one];
-            if (kind != program.kinds[other] || program.details[one] != program.details[other]) {
+            if (kind == INPUT || kind != program.kinds[other]
+                || program.details[one] != program.details[other]) {
                 return false;
-            }
-            if (!program.isOperation(one)) {
-                return one == other;
             }
             int first = models[program.firsts[one]];
             int second = models[program.seconds[one]];

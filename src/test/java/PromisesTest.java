@@ -378,9 +378,12 @@ public final class PromisesTest {
         x.operation(SUB, 1, 0);
         x.operation(ADD, 1, 3);
         x.operation(DIV, 1, 4);
+        x.operation(MUL, 2, 2);
         x.output(2);
         x.output(5);
         x.output(3);
+        x.output(6);
+        due("(1 + t) ^ 18, 8", x.taylor(3, 8), 43758);
         long[] ninth = {1, 9, 36, 84, 126, 126, 84, 36, 9};
         for (int k = 0; k <= 8; k++) {
             due("(1 + t) ^ 9, " + k, x.taylor(0, k), ninth[k]);
@@ -400,7 +403,7 @@ public final class PromisesTest {
         due("k = -1", x.taylor(0, -1), REFUSED);
         due("k = 9", x.taylor(0, 9), REFUSED);
         due("refusals go first", x.taylor(1, 9), REFUSED);
-        due("taylor(3, 0)", x.taylor(3, 0), REFUSED);
+        due("taylor(4, 0)", x.taylor(4, 0), REFUSED);
         for (int i : WRONG) due("taylor(" + i + ", 0)", x.taylor(i, 0), REFUSED);
     }
 
