@@ -1,6 +1,11 @@
 /** Long mixed runs of calls, each answered by the program and by the reference. */
 public final class AgainstReferenceTest {
-    private static final int RUNS = 1500;
+    private static final int RUNS = 1200;
+    /** An object is used for so many calls. */
+    private static final int MOST_CALLS = 512;
+    /** One round of questions asks at most so many: everything once, and a march with its answers. */
+    private static final int CALLS_OF_EVERYTHING = 232;
+    private static final int CALLS_OF_MARCH = 15;
     private static final int[] NUMBERS = {
         0, 1, 2, 3, 4, 5, 7, -1, -2, 65520, 65521, 65522, 65519, -65521, 131042, 32761,
         Integer.MAX_VALUE, Integer.MIN_VALUE, 12345, 54321
@@ -15,6 +20,7 @@ public final class AgainstReferenceTest {
     private int nodes = 0;
     private int outputs = 0;
     private int inputs = 0;
+    private int calls = 0;
 
     public static void main(String[] args) {
         for (int run = 0; run < RUNS && Check.allAsDue(); run++) {
@@ -52,7 +58,7 @@ public final class AgainstReferenceTest {
         int mostInputs = any(6);
         boolean square = run % 2 == 0;
         for (int j = 0; j < mostInputs && any(4) > 0; j++) makeInput();
-        for (int turn = 0; turn < 120 && Check.allAsDue(); turn++) {
+        for (int turn = 0; turn < 120 && calls + CALLS_OF_MARCH + CALLS_OF_EVERYTHING < MOST_CALLS; turn++) {
             if (nodes < most && any(2) == 0) {
                 makeNode(small, mostInputs);
             } else if (any(10) == 0 || square && nodes > 0 && outputs < inputs && any(3) == 0) {
@@ -62,9 +68,13 @@ public final class AgainstReferenceTest {
             }
         }
         askEverything();
+        while (calls + CALLS_OF_MARCH <= MOST_CALLS) askOrSet(small);
+        while (calls < MOST_CALLS) askValue(anyOf(nodes));
+        Check.due("calls of a run", calls, MOST_CALLS);
     }
 
     private void see(String call, long got, long want) {
+        calls++;
         told.append(call).append(" = ").append(got).append('\n');
         Check.due(call, got, want);
     }
